@@ -452,15 +452,14 @@ public final class Panyard {
         private final ArrayList<Pan> trials = new ArrayList<>();
 
         Planner() {
-            for (int t = 0; t <= MOST_PLAN; t++) {
+            for (int t = 0; t < MOST_PLAN; t++) {
                 trials.add(new Pan(t));
             }
         }
 
         int findRow(Pan pan, int heat) {
-            trials.get(0).copyFrom(pan);
             for (int length = 0; length <= MOST_PLAN; length++) {
-                if (fillRow(trials, row, 0, length, heat)) {
+                if (fillRow(pan, trials, row, 0, length, heat)) {
                     return length;
                 }
             }
@@ -468,19 +467,18 @@ public final class Panyard {
         }
 
         /** Tries the numbers in their order, so that the first row found is the one asked for. */
-        private static boolean fillRow(ArrayList<Pan> trials, int[] row, int place, int left,
-                int heat) {
-            if (place >= trials.size() || !trials.get(place).isTunable(heat, left)) {
+        private static boolean fillRow(Pan now, ArrayList<Pan> trials, int[] row, int place,
+                int left, int heat) {
+            if (!now.isTunable(heat, left)) {
                 return false;
             }
             if (left <= 0) {
                 return true;
             }
-            if (place >= row.length || place + 1 >= trials.size()) {
+            if (place < 0 || place >= row.length || place >= trials.size()) {
                 return false;
             }
-            Pan now = trials.get(place);
-            Pan next = trials.get(place + 1);
+            Pan next = trials.get(place);
             for (int number = 0; number < BLOW_NUMBERS; number++) {
                 int field = number / 8;
                 boolean isSink = number % 2 == 1;
@@ -488,7 +486,7 @@ public final class Panyard {
                     next.copyFrom(now);
                     next.beat(field, number % 8 / 2 + 1, isSink);
                     row[place] = number;
-                    if (fillRow(trials, row, place + 1, left - 1, heat)) {
+                    if (fillRow(next, trials, row, place + 1, left - 1, heat)) {
                         return true;
                     }
                 }
