@@ -12,7 +12,6 @@ import java.util.stream.Collectors;
 public final class FaceTest {
     private static final Check CHECK = new Check("FaceTest");
     private static final Path SOURCE = Path.of("src/main/java/Panyard.java");
-    private static final Path DOCUMENT = Path.of("../shared/DOC.md");
 
     public static void main(String[] args) throws IOException {
         constants();
@@ -48,7 +47,7 @@ public final class FaceTest {
 
     /** The methods as the document's listing declares them. */
     private static TreeSet<String> declaredInDocument() throws IOException {
-        return Files.readAllLines(DOCUMENT).stream().map(String::trim)
+        return Files.readAllLines(Document.PLACE).stream().map(String::trim)
                 .filter(line -> line.matches("public (int|void|boolean) \\w+\\(.*;"))
                 .map(line -> line.replace("public ", "").replace(";", "")
                         .replaceAll("(int|boolean) \\w+([,)])", "$1$2"))

@@ -8,6 +8,8 @@ public final class RunsTest {
     private static final int CALLS = 512;
     private static final int TAIL = 12;
     private static final int RUNS = 600;
+    /** Numbers that are out of every range. */
+    private static final int[] FAR = {Integer.MIN_VALUE, -1000, 1001, Integer.MAX_VALUE};
     private static final TreeMap<String, Integer> MET = new TreeMap<>();
 
     private final Check check;
@@ -99,7 +101,7 @@ public final class RunsTest {
             case 1:
                 return most + 1;
             case 2:
-                return Check.FAR[numbers.from(0, Check.FAR.length - 1)];
+                return FAR[numbers.from(0, FAR.length - 1)];
             default:
                 return numbers.from(least, most);
         }
