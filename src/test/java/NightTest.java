@@ -272,8 +272,8 @@ public final class NightTest {
                 int again = judge;
                 CHECK.refused("not performed", Check.STATE, () -> ready(),
                         y -> y.mark(2, again, 50));
-                CHECK.refused("marked", Check.STATE, () -> Yards.performed(9, 50, 50, 50, 50, 50),
-                        y -> y.mark(2, again, 60));
+                CHECK.refused("marked", Check.STATE, () -> Yards.performed(9, 10, 20, 30, 40, 50),
+                        y -> y.mark(2, again, 35));
                 CHECK.refused("marked by 0", Check.STATE, () -> Yards.performed(9, 0, 0, 0, 0, 0),
                         y -> y.mark(2, again, 0));
             }

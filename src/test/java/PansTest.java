@@ -72,6 +72,14 @@ public final class PansTest {
         CHECK.range(2, "- `fourth`: -60 to 60", Check.ARGUMENT, -60, 60, Panyard::new,
                 (y, v) -> y.pan(0, 0, 0, v));
         CHECK.test(2, "Throws `IllegalArgumentException` if one of these is out of its range", () -> {
+            for (int i = 0; i < 4; i++) {
+                int[] t = new int[4];
+                t[i] = 61;
+                CHECK.refused("one high", Check.ARGUMENT, Panyard::new,
+                        y -> y.pan(t[0], t[1], t[2], t[3]));
+                CHECK.refused("one low", Check.ARGUMENT, Panyard::new,
+                        y -> y.pan(-t[0], -t[1], -t[2], -t[3]));
+            }
             CHECK.refused("all high", Check.ARGUMENT, Panyard::new, y -> y.pan(61, 61, 61, 61));
             CHECK.refused("all low", Check.ARGUMENT, Panyard::new, y -> y.pan(-61, -61, -61, -61));
             CHECK.refused("one of each end", Check.ARGUMENT, Panyard::new,
@@ -549,10 +557,12 @@ public final class PansTest {
 
     private static void planBorne() {
         CHECK.test(7, "each of which the PAN bears then,", () -> {
-            Panyard sunk = Yards.withPan(0, 4, 0, 4);
-            sunk.blow(0, 0, 1, true);
             samePlan("at -6", Yards.withPan(-6, 5, 0, 5), 1, 0);
-            samePlan("at -6, sunk", sunk, 1, 9);
+            samePlan("at -6, sunk", sunkAt(0, -6, 5, 0, 5), 1, 9);
+            samePlan("none is sunk", Yards.withPan(-9, 0, -9, 0), 2, 0, 16);
+            samePlan("the first of two is sunk", sunkAt(0, -9, 0, -9, 0), Panyard.NONE);
+            samePlan("the second of two is sunk", sunkAt(2, -9, 0, -9, 0), Panyard.NONE);
+            samePlan("sunk again", sunkAt(0, 9, 0, -9, 0), 2, 1, 16);
             samePlan("no raise behind a sink of the row", Yards.withPan(-5, 8, 5, 8), 2, 6, 1);
             samePlan("the sixth blow", raised(5, -6, 5, 0, 5), 1, 0);
             samePlan("the seventh blow would crack", raised(6, -6, 5, 0, 5), 1, 9);
@@ -561,6 +571,16 @@ public final class PansTest {
             samePlan("the seventh of a row would crack", raised(5, -22, 5, 0, 5), 2, 6, 9);
             samePlan("cracked", raised(7, 0, 0, 0, 0), Panyard.NONE);
         });
+    }
+
+    /** A pan with these tones behind one blow by which that field was sunk. */
+    private static Panyard sunkAt(int field, int... tones) {
+        tones[field] += 6;
+        tones[(field + 1) % 4]--;
+        tones[(field + 3) % 4]--;
+        Panyard x = Yards.withPan(tones[0], tones[1], tones[2], tones[3]);
+        x.blow(0, field, 1, true);
+        return x;
     }
 
     /** A pan with these tones behind so many blows that raised its first field. */

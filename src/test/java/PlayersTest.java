@@ -131,7 +131,11 @@ public final class PlayersTest {
             CHECK.refused("in two, and in it", Check.STATE, () -> inTwo(), y -> y.join(0, 3));
             CHECK.refused("in two", Check.STATE, () -> inTwo(), y -> y.join(0, 1));
             CHECK.same("in one", 1, joinedAnother());
-            CHECK.refused("8 seats", Check.STATE, () -> full(1), y -> y.join(8, 1));
+            CHECK.refused("8 seats", Check.STATE, () -> {
+                Panyard x = knowing();
+                x.player(Panyard.OLD);
+                return x;
+            }, y -> y.join(8, 1));
             CHECK.same("7 seats", 7, eighth(7));
             CHECK.refused("left another one", Check.STATE, () -> leftOne(0), y -> y.join(0, 2));
             CHECK.same("left that one", 0, leftOne(0).join(0, 1));
@@ -381,8 +385,15 @@ public final class PlayersTest {
                     y -> y.give(0, 0));
             CHECK.refused("no pan at all", Check.INDEX, () -> Yards.withPlayers(1),
                     y -> y.give(0, 0));
-            CHECK.beyond(Check.INDEX, 0, 2, () -> given(), (y, v) -> y.give(v, 0));
-            CHECK.beyond(Check.INDEX, 0, 1, () -> given(), (y, v) -> y.give(2, v));
+            CHECK.beyond(Check.INDEX, 0, 2, () -> given(), (y, v) -> y.give(v, 1));
+            CHECK.beyond(Check.INDEX, 0, 1, () -> given(), (y, v) -> y.give(0, v));
+            CHECK.refused("no player, pan of one", Check.INDEX, () -> given(), y -> y.give(3, 0));
+            CHECK.refused("no pan, has one", Check.INDEX, () -> given(), y -> y.give(2, 2));
+            CHECK.beyond(Check.INDEX, 0, 5, () -> {
+                Panyard x = Yards.withPans(6);
+                x.player(Panyard.FIFTHS);
+                return x;
+            }, (y, v) -> y.give(0, v));
         });
         CHECK.test(11, "Throws `IllegalStateException` if the PLAYER has one, or the PAN is of one",
                 () -> {

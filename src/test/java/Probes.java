@@ -7,8 +7,9 @@ import java.util.function.Supplier;
  * would go. Each uses its object up, and needs few enough of the 512 calls that an object has.
  */
 final class Probes {
-    static final List<Function<Panyard, String>> ALL = List.of(Probes::ofPans, Probes::ofPlayers,
-            x -> ofBand(x, 0), x -> ofBand(x, 1), x -> ofBand(x, 2), x -> ofBand(x, 3));
+    static final List<Function<Panyard, String>> ALL = List.of(Probes::ofPans,
+            x -> ofPlayers(x, 0), x -> ofPlayers(x, 3), x -> ofBand(x, 0), x -> ofBand(x, 1),
+            x -> ofBand(x, 2), x -> ofBand(x, 3));
 
     private Probes() {
     }
@@ -39,25 +40,22 @@ final class Probes {
         return told.append(answer(() -> x.pass(1))).toString();
     }
 
-    private static String ofPlayers(Panyard x) {
+    /** Who may join what, from that band on upward or downward, and what pan may be given. */
+    private static String ofPlayers(Panyard x, int firstBand) {
         StringBuilder told = new StringBuilder();
         for (int p = 0; p < 16; p++) {
             int player = p;
             told.append("\nplayer ").append(answer(() -> x.ofPlayer(player, 0)))
                     .append(answer(() -> x.ofPlayer(player, 1)))
                     .append(answer(() -> x.ofPlayer(player, 2)));
+            for (int b = 0; b < 4; b++) {
+                int band = Math.abs(firstBand - b);
+                told.append(answer(() -> x.join(player, band)));
+            }
         }
-        for (int i = 0; i < 64; i++) {
+        for (int i = 0; i < 96; i++) {
             int turn = i;
-            told.append(answer(() -> x.join(turn / 4, turn % 4)));
-        }
-        for (int p = 0; p < 16; p++) {
-            int player = p;
-            told.append(answer(() -> x.takeBack(player)));
-        }
-        for (int p = 0; p < 6; p++) {
-            int pan = p;
-            told.append(answer(() -> given(x, 0, pan)));
+            told.append(answer(() -> given(x, turn / 6, turn % 6)));
         }
         return told.append(answer(() -> x.player(0))).toString();
     }
@@ -82,7 +80,7 @@ final class Probes {
             }
         }
         told.append("\ndrills ").append(answer(() -> x.drill(band, 0)));
-        return told.append(songOf(x, band)).append(nightOf(x, band)).toString();
+        return told.append(nightOf(x, band)).append(songOf(x, band)).toString();
     }
 
     private static String songOf(Panyard x, int band) {
@@ -98,7 +96,15 @@ final class Probes {
         for (int place = 0; place < 4; place++) {
             told.append(x.rank(place)).append(' ');
         }
-        told.append(answer(() -> x.score(band))).append(answer(() -> x.perform(band, 17)));
+        // a refused call is asked for last: it might set once more what one before has set
+        if (x.ofBand(band, 3) == Panyard.NONE) {
+            told.append(answer(() -> x.perform(band, 17)));
+        }
+        return told.append(marksOf(x, band)).append(answer(() -> x.perform(band, 18))).toString();
+    }
+
+    private static String marksOf(Panyard x, int band) {
+        StringBuilder told = new StringBuilder(answer(() -> x.score(band)));
         for (int j = 0; j < 5; j++) {
             int judge = j;
             told.append(answer(() -> x.mark(band, judge, 11 * judge)));

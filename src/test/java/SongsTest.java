@@ -163,15 +163,18 @@ public final class SongsTest {
         CHECK.test(15, "As a NOTE is changed into another one, all SEATS that KNEW its PHRASE RIGHT"
                 + " KNOW it WRONG.", () -> {
             Panyard x = withBand(8, 14);
-            for (int s = 0; s < 8; s += 2) {
-                x.tell(2, s, 1);
+            for (int s = 0; s < 8; s++) {
+                if (s % 7 == 0 || s == 3) {
+                    x.tell(2, s, 1);
+                }
             }
             x.tell(2, 0, 0);
             CHECK.same("into the same", 4, x.change(2, 4, 4));
             CHECK.same("it is right still", RIGHT, x.knows(2, 0, 1));
             x.change(2, 7, 0);
             for (int s = 0; s < 8; s++) {
-                CHECK.same("seat " + s, s % 2 == 0 ? WRONG : UNKNOWN, x.knows(2, s, 1));
+                CHECK.same("seat " + s, s % 7 == 0 || s == 3 ? WRONG : UNKNOWN,
+                        x.knows(2, s, 1));
             }
             CHECK.same("another phrase", RIGHT, x.knows(2, 0, 0));
             x.change(2, 7, 7);
